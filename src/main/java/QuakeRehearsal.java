@@ -24,8 +24,10 @@ public final class QuakeRehearsal {
     private static final int ENCORE_MARKS = 3;
     private static final int MOST_TRIES = 30;
     private static final int MOST_SIGNS = 60;
+    /** More than the input can hold: the shortest order has five characters and a semicolon. */
     private static final int MOST_ORDERS = 12;
     private static final int MOST_UNDONE = 8;
+    /** More than any line needs: the longest, of a lamp, has ten characters. */
     private static final int LINE_ROOM = 16;
 
     private static final int DONE = 0;
@@ -248,14 +250,20 @@ public final class QuakeRehearsal {
         if (errorPlace >= 0) {
             throw new IllegalArgumentException("the text has an error");
         }
-        int outcome = carryOut();
+        history.note(hall);
+        int outcome = DONE;
+        for (int i = 0; i < script.orderCount && outcome == DONE; i++) {
+            outcome = tryOrder(script.wordAt(i), script.firstAt(i), script.secondAt(i));
+        }
+        if (outcome == DONE) {
+            history.keepNote();
+            return script.orderCount;
+        }
+        history.copyNoteTo(hall);
         if (outcome == REFUSED) {
             throw new UnsupportedOperationException("an order is refused");
         }
-        if (outcome != DONE) {
-            throw new IllegalArgumentException("an order cannot be carried out");
-        }
-        return script.orderCount;
+        throw new IllegalArgumentException("an order cannot be carried out");
     }
 
     public int errorPosition() {
@@ -389,20 +397,6 @@ public final class QuakeRehearsal {
             history.keepNote();
         }
         return outcome;
-    }
-
-    /** Tries the orders of the script as one change; none of them stays done if one cannot be. */
-    private int carryOut() {
-        history.note(hall);
-        for (int i = 0; i < script.orderCount; i++) {
-            int outcome = tryOrder(script.wordAt(i), script.firstAt(i), script.secondAt(i));
-            if (outcome != DONE) {
-                history.copyNoteTo(hall);
-                return outcome;
-            }
-        }
-        history.keepNote();
-        return DONE;
     }
 
     /** Carries out an order in the hall and keeps its answer, or tells why it cannot be and changes nothing there. */

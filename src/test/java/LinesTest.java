@@ -15,6 +15,7 @@ public final class LinesTest {
         character();
         append();
         runsAllOrders();
+        runReadsTwoDigits();
         runIsWholeOrNothing();
         runTellsRefusals();
         runTellsWrongOrders();
@@ -122,10 +123,25 @@ public final class LinesTest {
         Check.same("two digits, and 0 takes the cue away", 1, Check.run(x, "cue 01 0"));
         Check.same("the lamp", "l1:7~16", Check.lineOf(x, 1));
         Check.same("two digits", 1, Check.run(x, "take 02"));
-        Check.same("cats", 0, x.account(3));
         Check.same("ten orders", 10, Check.run(x, "shock;shock;shock;shock;shock;quiet;quiet;quiet;quiet;quiet"));
         Check.same("60 characters", 10, Check.run(x, "shock;shock;shock;shock;shock;shock;shock;shock;shock;take 0"));
         Check.same("changes", 6, x.account(12));
+    }
+
+    private static void runReadsTwoDigits() {
+        Check.begin("promise 30, two digits");
+        QuakeRehearsal x = new QuakeRehearsal();
+        for (int i = 0; i < 10; i++) {
+            x.cup(i / 2, 1);
+        }
+        x.lamp(2, 3);
+        x.lamp(4, 5);
+        Check.same("cue 10", 1, Check.run(x, "cue 10 7"));
+        Check.same("the lamps", "l2:3~0#7 l4:5~0", Check.lineOf(x, 10) + " " + Check.lineOf(x, 11));
+        Check.same("take 10", 1, Check.run(x, "take 10"));
+        Check.same("the other lamp", "l4:5~0", Check.lineOf(x, 10));
+        Check.same("cue 10 and take 00", 2, Check.run(x, "cue 10 1;take 00"));
+        Check.same("the other lamp", "l4:5~0#1", Check.lineOf(x, 9));
     }
 
     private static void runIsWholeOrNothing() {
@@ -332,6 +348,9 @@ public final class LinesTest {
         Check.same("meanGrade() of cracked ones", 9.0 / 3.0, x.meanGrade());
         x.take(2);
         Check.same("meanGrade()", 4.0, x.meanGrade());
+        x.take(0);
+        x.take(0);
+        Check.same("meanGrade() with cups alone", 4.0, x.meanGrade());
     }
 
     private static void brokenShare() {

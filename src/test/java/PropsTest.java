@@ -161,6 +161,19 @@ public final class PropsTest {
         Check.same("take of a broken one", 0, x.take(0));
         Check.same("broken props", 0, x.account(4));
         Check.same("what broke so far", 1, x.account(9));
+        Check.same("a new cup in its place", 0, x.cup(1, 9));
+        Check.same("the new cup", "1,1,9,0,0,0,0; 1 1 0 0 0 9 4 0 1 1 0", Check.stateOf(x));
+        x.shock();
+        x.take(0);
+        x.cat(0, 9);
+        Check.same("a new cat in its place", "3,0,9,0,0,0,0; 1 0 0 1 0 9 5 0 1 1 0", Check.stateOf(x));
+        x.shock();
+        x.take(0);
+        x.lamp(0, 9);
+        x.cue(0, 9);
+        x.take(0);
+        x.lamp(0, 9);
+        Check.same("a new lamp in its place", "2,0,9,0,0,0,0; 1 0 1 0 0 9 6 0 6 1 0", Check.stateOf(x));
     }
 
     private static void cue() {
@@ -380,6 +393,20 @@ public final class PropsTest {
         Check.same("shock() by which a lamp falls", 0, y.shock());
         Check.same("the lamp", true, y.isBroken(1));
         Check.same("likes", 6, y.propOf(0, 2));
+
+        QuakeRehearsal z = new QuakeRehearsal();
+        z.set(9);
+        for (int floor = 0; floor <= 4; floor++) {
+            z.lamp(floor, 8);
+            z.cat(floor, 0);
+        }
+        for (int i = 0; i < 30; i++) {
+            z.shock();
+        }
+        Check.same("all lamps are broken", 5, z.account(9));
+        z.cat(3, 3);
+        Check.same("what fell by earlier ones frightens no more", 2 + 5 + 4, z.shock());
+        Check.same("likes", 0, z.propOf(1, 2));
     }
 
     private static void add() {

@@ -160,6 +160,15 @@ public final class ShocksTest {
         y.take(0);
         Check.same("without it", 0, y.programmeBreaks());
         Check.same("the programme stays", "45", Check.programmeOf(y));
+        y.set(9);
+        y.shock();
+        y.shock();
+        y.shock();
+        Check.same("what broke so far", 1, y.account(9));
+        y.cup(4, 1);
+        y.add(9);
+        y.add(9);
+        Check.same("what is broken does not count", 1, y.programmeBreaks());
     }
 
     private static void best() {
@@ -182,17 +191,32 @@ public final class ShocksTest {
         Check.begin("promise 19");
         QuakeRehearsal x = new QuakeRehearsal();
         Check.fails("leastBreaking()", NoSuchElementException.class, () -> x.leastBreaking());
-        x.cup(1, 8);
+        x.cup(2, 7);
         x.set(9);
         x.shock();
+        Check.fails("leastBreaking() with one crack", NoSuchElementException.class, () -> x.leastBreaking());
         x.shock();
-        Check.same("for the grade 6 above", 7, x.leastBreaking());
+        Check.same("for the grade 5 on floor 2", 7, x.leastBreaking());
         x.cat(0, 0);
-        Check.same("for the grade 6 above a cat", 8, x.leastBreaking());
+        Check.same("above a cat", 8, x.leastBreaking());
         x.cat(1, 0);
+        Check.same("above two cats", 9, x.leastBreaking());
         x.take(0);
-        x.lamp(1, 1);
-        Check.fails("leastBreaking()", NoSuchElementException.class, () -> x.leastBreaking());
+        Check.fails("leastBreaking() of cats", NoSuchElementException.class, () -> x.leastBreaking());
+
+        QuakeRehearsal y = new QuakeRehearsal();
+        y.lamp(0, 1);
+        y.set(9);
+        y.shock();
+        Check.fails("leastBreaking() for the swing 10", NoSuchElementException.class, () -> y.leastBreaking());
+        y.shock();
+        Check.same("for the swing 20", 1, y.leastBreaking());
+        for (boolean isAgain : WAYS) {
+            Check.same("wouldBreak(1) for the swing 20", 1, y.wouldBreak(1, isAgain));
+        }
+        y.cue(0, 1);
+        Check.same("for the swing 20, cued for 1", 2, y.leastBreaking());
+        Check.same("isWell() for the swing 20", true, y.isWell());
     }
 
     private static void shocksFor() {
