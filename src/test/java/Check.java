@@ -79,15 +79,30 @@ final class Check {
         return text.toString();
     }
 
+    /** Places a cup, a lamp or a cat, by the number of its kind. */
+    static int place(QuakeRehearsal x, int kind, int floor, int number) {
+        return kind == 1 ? x.cup(floor, number) : kind == 2 ? x.lamp(floor, number) : x.cat(floor, number);
+    }
+
+    /** Sets the machine to a strength, to which it may be set already, and performs a shock of it. */
+    static int shock(QuakeRehearsal x, int strength) {
+        if (x.account(5) != strength) {
+            x.set(strength);
+        }
+        return x.shock();
+    }
+
     /** All that changes can change, as far as it can be asked without writing a line. */
     static String stateOf(QuakeRehearsal x) {
         StringBuilder text = new StringBuilder();
-        for (int prop = 0; prop < x.account(0); prop++) {
+        int props = x.account(0);
+        int planned = x.account(10);
+        for (int prop = 0; prop < props; prop++) {
             for (int what = 0; what <= 6; what++) {
                 text.append(x.propOf(prop, what)).append(what < 6 ? "," : ";");
             }
         }
-        for (int place = 0; place < x.account(10); place++) {
+        for (int place = 0; place < planned; place++) {
             text.append(" +").append(x.programme(place));
         }
         for (int what = 0; what <= 10; what++) {
