@@ -378,7 +378,7 @@ public final class LinesTest {
         String[] states = new String[12];
         for (int i = 0; i < 12; i++) {
             states[i] = Check.stateOf(x);
-            x.cup(i % 5, 1 + i % 9);
+            x.set(1 + (i + 1) % 9);
         }
         Check.same("changes", 8, x.account(12));
         for (int i = 11; i >= 4; i--) {
@@ -395,12 +395,32 @@ public final class LinesTest {
         x.undo();
         Check.same("the strength", 2, x.account(5));
         x.undo();
-        Check.same("the strength", 1, x.account(5));
+        Check.same("the strength", 5, x.account(5));
         Check.same("changes", 0, x.account(12));
     }
 
     private static void undoTakesBackEachChange() {
         Check.begin("promise 37, each change");
+        Twins.Act[] changes = {x -> x.cup(1, 1), x -> x.lamp(1, 1), x -> x.cat(1, 1), x -> x.take(0),
+            x -> x.cue(1, 4), x -> x.set(5), x -> x.shock(), x -> x.add(9), x -> x.perform(), x -> x.quiet(),
+            x -> Check.run(x, "take 0;set 5;add 1;shock;perform;cat 4 4")};
+        for (int i = 0; i < changes.length; i++) {
+            QuakeRehearsal x = shakenTwice();
+            String before = Check.stateOf(x);
+            changes[i].on(x);
+            Check.same("change " + i + " counts", 7, x.account(12));
+            Check.same("change " + i + " changes something", false, before.equals(Check.stateOf(x)));
+            Check.same("undo()", 6, x.undo());
+            Check.same("state", before, Check.stateOf(x));
+        }
+        QuakeRehearsal x = shakenTwice();
+        x.append('a');
+        x.line(0);
+        x.save();
+        Check.same("no changes", 6, x.account(12));
+    }
+
+    private static QuakeRehearsal shakenTwice() {
         QuakeRehearsal x = new QuakeRehearsal();
         x.cup(0, 2);
         x.lamp(0, 7);
@@ -408,21 +428,7 @@ public final class LinesTest {
         x.add(4);
         x.shock();
         x.shock();
-        Runnable[] changes = {() -> x.cup(1, 1), () -> x.lamp(1, 1), () -> x.cat(1, 1), () -> x.take(0),
-            () -> x.cue(1, 4), () -> x.set(5), () -> x.shock(), () -> x.add(9), () -> x.perform(), () -> x.quiet(),
-            () -> Check.run(x, "take 0;set 5;add 1;shock;perform;cat 4 4")};
-        String before = Check.stateOf(x);
-        for (int i = 0; i < changes.length; i++) {
-            changes[i].run();
-            Check.same("change " + i + " counts", 7, x.account(12));
-            Check.same("change " + i + " changes something", false, before.equals(Check.stateOf(x)));
-            Check.same("undo()", 6, x.undo());
-            Check.same("state", before, Check.stateOf(x));
-        }
-        x.append('a');
-        x.line(0);
-        x.save();
-        Check.same("no changes", 6, x.account(12));
+        return x;
     }
 
     private static void save() {
