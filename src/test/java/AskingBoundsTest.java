@@ -30,6 +30,7 @@ public final class AskingBoundsTest {
         lampsBySwingThenLengthThenNumber();
         catsByMarksThenNumber();
         placesOfTheOrders();
+        ordersOfOneAndOfTwelve();
         accountsAre0To12();
         accountsOfTheInputAndChanges();
         isWellAtTheBounds();
@@ -436,8 +437,7 @@ public final class AskingBoundsTest {
     private static String order(QuakeRehearsal x, int kind, int count) {
         StringBuilder text = new StringBuilder();
         for (int place = 0; place < count; place++) {
-            int number = kind == 1 ? x.cupAt(place) : kind == 2 ? x.lampAt(place) : x.catAt(place);
-            text.append(place == 0 ? "" : " ").append(number);
+            text.append(place == 0 ? "" : " ").append(at(x, kind, place));
         }
         return text.toString();
     }
@@ -501,6 +501,27 @@ public final class AskingBoundsTest {
         Check.same("cups", "8 6 4 2 0", order(x, 1, 5));
         Check.same("lamps", "1 3 5 7 9", order(x, 2, 5));
         Check.same("cats", "10 11", order(x, 3, 2));
+    }
+
+    private static void ordersOfOneAndOfTwelve() {
+        Check.begin("promises 22 to 24: the last place, and the one behind it");
+        for (int kind = 1; kind <= 3; kind++) {
+            QuakeRehearsal x = new QuakeRehearsal();
+            for (int count = 1; count <= 12; count++) {
+                Check.place(x, kind, count % 5, 4);
+                Check.same("the last of " + count, count - 1, at(x, kind, count - 1));
+                int what = kind;
+                int behind = count;
+                Check.fails("the one behind it", NONE, () -> at(x, what, behind));
+            }
+            Check.same("all alike, by their numbers", "0 1 2 3 4 5 6 7 8 9 10 11", order(x, kind, 12));
+            int other = kind % 3 + 1;
+            Check.fails("another kind", NONE, () -> at(x, other, 0));
+        }
+    }
+
+    private static int at(QuakeRehearsal x, int kind, int place) {
+        return kind == 1 ? x.cupAt(place) : kind == 2 ? x.lampAt(place) : x.catAt(place);
     }
 
     private static void checkNoPlace(int cup, int lamp, int cat, Twins.Act past) {
